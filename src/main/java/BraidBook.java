@@ -75,7 +75,7 @@ public final class BraidBook {
     public int share(int device, int entry, int person, int fields)
             throws IndexOutOfBoundsException, IllegalArgumentException, IllegalStateException {
         Entry known = knownEntry(books, device, entry);
-        if (person < 0 || person >= PERSONS) {
+        if (!isPerson(person)) {
             throw new IndexOutOfBoundsException("no such person");
         }
         if (fields < 0 || fields > ALL_FIELDS) {
@@ -176,13 +176,13 @@ public final class BraidBook {
     // ---- what the calls have in common
 
     private static void requireDevice(int device) {
-        if (device < 0 || device >= DEVICES) {
+        if (!isDevice(device)) {
             throw new IndexOutOfBoundsException("no such device");
         }
     }
 
     private static void requireField(int field) {
-        if (field < 0 || field >= FIELDS) {
+        if (!isField(field)) {
             throw new IndexOutOfBoundsException("no such field");
         }
     }
@@ -224,6 +224,18 @@ public final class BraidBook {
         for (int act = 0; act < journal.size; act++) {
             journal.repeat(act, booksAnew);
         }
+    }
+
+    private static boolean isDevice(int device) {
+        return device >= 0 && device < DEVICES;
+    }
+
+    private static boolean isPerson(int person) {
+        return person >= 0 && person < PERSONS;
+    }
+
+    private static boolean isField(int field) {
+        return field >= 0 && field < FIELDS;
     }
 
     private static int personOf(int device) {
@@ -292,7 +304,10 @@ public final class BraidBook {
         }
     }
 
-    /** The books of all devices. Its acts take arguments that were looked at before. */
+    /**
+     * The books of all devices. The calls of the face have looked at the arguments of its acts;
+     * an act looks once more at what it uses as an index, since the journal hands them in, too.
+     */
     private static final class Books {
         int month;
         int entryCount;
@@ -329,7 +344,7 @@ public final class BraidBook {
         }
 
         int makeEntry(int device) {
-            if (entryCount >= ENTRIES) {
+            if (entryCount >= ENTRIES || !isDevice(device)) {
                 return entryCount;
             }
             int made = entryCount;
@@ -341,7 +356,7 @@ public final class BraidBook {
 
         int tellValue(int device, int entry, int field, int value) {
             Entry found = find(entry);
-            if (found == null) {
+            if (found == null || !isDevice(device) || !isField(field)) {
                 return 0;
             }
             Copy copy = found.copies[device];
@@ -359,7 +374,7 @@ public final class BraidBook {
 
         int setMark(int device, int entry) {
             Entry found = find(entry);
-            if (found == null) {
+            if (found == null || !isDevice(device)) {
                 return 0;
             }
             nextAct(device);
@@ -369,7 +384,7 @@ public final class BraidBook {
 
         int shareFields(int entry, int person, int fields) {
             Entry found = find(entry);
-            if (found == null) {
+            if (found == null || !isPerson(person)) {
                 return 0;
             }
             int before = found.shared[person];
@@ -384,6 +399,9 @@ public final class BraidBook {
 
         int mergeDevices(int one, int other) {
             int answer = 0;
+            if (!isDevice(one) || !isDevice(other)) {
+                return answer;
+            }
             for (int entry = 0; entry < ENTRIES && entry < entryCount; entry++) {
                 answer += entries[entry].mergeOn(one, other, month);
             }
@@ -705,18 +723,17 @@ public final class BraidBook {
             }
             boolean keepsOwn = acts[cell] > other.seen.numbers[cell];
             boolean takesOther = other.acts[cell] > seen.numbers[cell];
-            int gained = 0;
             if (keepsOwn) {
                 other.takeCell(this, cell);
-                gained = 1;
-            } else if (takesOther) {
-                takeCell(other, cell);
-                gained = 1;
-            } else {
-                dropCell(cell);
-                other.dropCell(cell);
+                return 1;
             }
-            return gained;
+            if (takesOther) {
+                takeCell(other, cell);
+                return 1;
+            }
+            dropCell(cell);
+            other.dropCell(cell);
+            return 0;
         }
 
         void takeCell(Copy other, int cell) {

@@ -194,8 +194,13 @@ public final class PromisesTest {
         b.tell(1, 0, 0, -1);
         due("taken away, so nothing is gained", 0, b.merge(0, 1));
         due("gone on the other, too", 0, b.values(0, 0, 0));
+        b.tell(0, 0, 0, 3);
+        b.merge(0, 1);
+        b.tell(0, 0, 0, -1);
+        due("taken away on the first, nothing is gained", 0, b.merge(0, 1));
+        due("gone on the second, too", 0, b.values(1, 0, 0));
         due("seen of the other", 2, b.seen(0, 0, 0, 1));
-        due("seen of the one", 2, b.seen(1, 0, 0, 0));
+        due("seen of the one", 4, b.seen(1, 0, 0, 0));
         b.share(0, 0, 1, 1);
         b.share(0, 0, 2, 2);
         b.tell(0, 0, 0, 3);
@@ -226,6 +231,11 @@ public final class PromisesTest {
         due("back whole", 1, b.state(0, 0));
         due("the mark is known there, too", 100, b.marks(1, 0));
         due("and since then on the one", 105, b.marks(0, 0));
+        b.pass(1);
+        b.merge(0, 1);
+        b.merge(1, 0);
+        due("known again, it is not known anew", 101, b.marks(1, 0));
+        due("nor on the one", 106, b.marks(0, 0));
         b.share(0, 0, 2, 8);
         b.merge(1, 4);
         due("a mark goes with whatever field", 100, b.marks(4, 0));
@@ -266,6 +276,8 @@ public final class PromisesTest {
         due("no field in common, so it stays", 3, d.state(2, 0));
         d.share(1, 0, 1, 2);
         due("a bare entry is covered", 100, d.merge(2, 0));
+        due("unknown on the first", 0, d.state(2, 0));
+        due("unknown on the second", 0, d.state(0, 0));
 
         BraidBook e = one();
         e.share(0, 0, 1, 1);
@@ -274,6 +286,55 @@ public final class PromisesTest {
         due("neither knows it, both have the note", 0, e.merge(0, 1));
         due("as has a third one", 0, e.merge(1, 2));
         due("unknown", 0, e.state(1, 0));
+
+        BraidBook f = one();
+        f.delete(0, 0);
+        f.tell(0, 0, 0, 6);
+        f.merge(0, 1);
+        f.tell(0, 0, 0, -1);
+        due("without values forgotten", 1, f.pass(13));
+        due("the note has what was seen behind the mark", 100, f.merge(0, 1));
+    }
+
+    /** The device 2 knows the entry; the device 0 has a note that covers it, the devices 1 and 3 know nothing. */
+    private static BraidBook noted() {
+        BraidBook b = one();
+        b.share(0, 0, 1, 1);
+        b.merge(0, 2);
+        b.delete(0, 0);
+        b.pass(13);
+        return b;
+    }
+
+    private static void mergeNoteEitherWay() {
+        promise = "6 merge, a note either way";
+        BraidBook b = noted();
+        b.merge(0, 1);
+        due("given to the second", 100, b.merge(1, 2));
+        BraidBook c = noted();
+        c.merge(1, 0);
+        due("given to the first", 100, c.merge(1, 2));
+        BraidBook d = noted();
+        due("without a note it comes back", 1, d.merge(1, 2));
+        BraidBook e = noted();
+        e.merge(0, 3);
+        e.merge(3, 0);
+        due("both still have it", 100, e.merge(2, 3));
+        due("nothing is left", 0, e.merge(2, 0));
+    }
+
+    private static void mergeNotesGreater() {
+        promise = "6 merge, the greater one of two notes";
+        BraidBook b = one();
+        b.merge(0, 1);
+        b.share(0, 0, 1, 1);
+        b.delete(0, 0);
+        b.tell(1, 0, 0, 6);
+        b.merge(1, 2);
+        b.delete(1, 0);
+        due("the devices 0 and 1 forget", 2, b.pass(13));
+        due("their notes are merged", 0, b.merge(0, 1));
+        due("the note of the device 0 covers what the device 1 told", 100, b.merge(0, 2));
     }
 
     private static void mergeNotePassedOn() {
@@ -405,6 +466,40 @@ public final class PromisesTest {
 
     private static int ask(BraidBook b, boolean anew, int device, int entry, int field, int index) {
         return anew ? b.valueAnew(device, entry, field, index) : b.value(device, entry, field, index);
+    }
+
+    /** Nothing of one doing may be left for the next one. */
+    private static void valueAnewAgain() {
+        promise = "10 valueAnew, again";
+        BraidBook b = one();
+        b.merge(0, 2);
+        b.share(0, 0, 1, 1);
+        for (int i = 0; i < 3; i++) {
+            dueThrow("shared later than merged", INDEX, () -> b.valueAnew(2, 0, 0, 0));
+            due("the owner", 5, b.valueAnew(0, 0, 0, 0));
+        }
+        BraidBook c = one();
+        c.share(0, 0, 1, 1);
+        c.merge(0, 2);
+        c.merge(0, 1);
+        c.delete(0, 0);
+        c.merge(0, 2);
+        due("forgotten on two devices", 2, c.pass(13));
+        for (int i = 0; i < 3; i++) {
+            due("the note of the device 2 is later than the merging", 5, c.valueAnew(1, 0, 0, 0));
+            dueThrow("forgotten each time", INDEX, () -> c.valueAnew(0, 0, 0, 0));
+        }
+        BraidBook d = one();
+        for (int i = 0; i < 12; i++) due("entries are made but once", 5, d.valueAnew(0, 0, 0, 0));
+        d.entry(3);
+        d.tell(3, 1, 2, 9);
+        due("another entry", 9, d.valueAnew(3, 1, 2, 0));
+        d.delete(0, 0);
+        d.pass(24);
+        for (int i = 0; i < 3; i++) {
+            due("whose entry it is", 9, d.valueAnew(3, 1, 2, 0));
+            dueThrow("forgotten each time", INDEX, () -> d.valueAnew(0, 0, 0, 0));
+        }
     }
 
     private static void values() {
@@ -603,10 +698,13 @@ public final class PromisesTest {
         mergeNotes();
         mergeNotePassedOn();
         mergeNoteOfMarks();
+        mergeNoteEitherWay();
+        mergeNotesGreater();
         pass();
         state();
         value(false);
         value(true);
+        valueAnewAgain();
         values();
         seen();
         marks();
