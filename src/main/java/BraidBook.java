@@ -131,7 +131,8 @@ public final class BraidBook {
     }
 
     public int valueAnew(int device, int entry, int field, int index) throws IndexOutOfBoundsException {
-        doAllActsAnew();
+        booksAnew.clear();
+        journal.repeatOn(booksAnew);
         return valueIn(booksAnew, device, entry, field, index);
     }
 
@@ -219,13 +220,6 @@ public final class BraidBook {
         return copy.valueAt(field, index);
     }
 
-    private void doAllActsAnew() {
-        booksAnew.clear();
-        for (int act = 0; act < journal.size; act++) {
-            journal.repeat(act, booksAnew);
-        }
-    }
-
     private static boolean isDevice(int device) {
         return device >= 0 && device < DEVICES;
     }
@@ -284,22 +278,20 @@ public final class BraidBook {
             size++;
         }
 
-        void repeat(int act, Books books) {
-            if (act < 0 || act >= size) {
-                return;
-            }
-            int first = firsts[act];
-            int second = seconds[act];
-            int third = thirds[act];
-            int fourth = fourths[act];
-            switch (kinds[act]) {
-                case MAKE: books.makeEntry(first); break;
-                case TELL: books.tellValue(first, second, third, fourth); break;
-                case DELETE: books.setMark(first, second); break;
-                case SHARE: books.shareFields(first, second, third); break;
-                case MERGE: books.mergeDevices(first, second); break;
-                case PASS: books.passMonths(first); break;
-                default: break;
+        void repeatOn(Books books) {
+            for (int act = 0; act < ACTS && act < size; act++) {
+                int first = firsts[act];
+                int second = seconds[act];
+                int third = thirds[act];
+                switch (kinds[act]) {
+                    case MAKE: books.makeEntry(first); break;
+                    case TELL: books.tellValue(first, second, third, fourths[act]); break;
+                    case DELETE: books.setMark(first, second); break;
+                    case SHARE: books.shareFields(first, second, third); break;
+                    case MERGE: books.mergeDevices(first, second); break;
+                    case PASS: books.passMonths(first); break;
+                    default: break;
+                }
             }
         }
     }
@@ -632,9 +624,7 @@ public final class BraidBook {
             known = false;
             noted = false;
             keepFields(0);
-            for (int field = 0; field < FIELDS; field++) {
-                note.clear(field);
-            }
+            note.clear();
         }
 
         int countValues(int field) {
@@ -649,8 +639,10 @@ public final class BraidBook {
 
         int countAllValues() {
             int count = 0;
-            for (int field = 0; field < FIELDS; field++) {
-                count += countValues(field);
+            for (int cell = 0; cell < CELLS; cell++) {
+                if (acts[cell] != 0) {
+                    count++;
+                }
             }
             return count;
         }
@@ -687,10 +679,11 @@ public final class BraidBook {
         }
 
         void keepFields(int fields) {
-            for (int field = 0; field < FIELDS; field++) {
-                if (!contains(fields, field)) {
-                    dropValues(field);
-                    seen.clear(field);
+            for (int cell = 0; cell < CELLS; cell++) {
+                if (!contains(fields, cell / DEVICES)) {
+                    acts[cell] = 0;
+                    told[cell] = 0;
+                    seen.numbers[cell] = 0;
                 }
             }
         }
@@ -721,29 +714,21 @@ public final class BraidBook {
             if (acts[cell] == other.acts[cell]) {
                 return 0;
             }
-            boolean keepsOwn = acts[cell] > other.seen.numbers[cell];
-            boolean takesOther = other.acts[cell] > seen.numbers[cell];
-            if (keepsOwn) {
-                other.takeCell(this, cell);
-                return 1;
+            int act = 0;
+            int value = 0;
+            if (acts[cell] > other.seen.numbers[cell]) {
+                act = acts[cell];
+                value = told[cell];
+            } else if (other.acts[cell] > seen.numbers[cell]) {
+                act = other.acts[cell];
+                value = other.told[cell];
             }
-            if (takesOther) {
-                takeCell(other, cell);
-                return 1;
-            }
-            dropCell(cell);
-            other.dropCell(cell);
-            return 0;
-        }
-
-        void takeCell(Copy other, int cell) {
-            acts[cell] = other.acts[cell];
-            told[cell] = other.told[cell];
-        }
-
-        void dropCell(int cell) {
-            acts[cell] = 0;
-            told[cell] = 0;
+            acts[cell] = act;
+            told[cell] = value;
+            other.acts[cell] = act;
+            other.told[cell] = value;
+            // What is kept was on one of both alone, so just the other one gains it.
+            return act == 0 ? 0 : 1;
         }
 
         void exchangeNotes(Copy other) {
@@ -763,9 +748,7 @@ public final class BraidBook {
         final int[] knownSince = new int[DEVICES];
 
         void set(Numbers seenThere, int device, int month) {
-            for (int field = 0; field < FIELDS; field++) {
-                seen.clear(field);
-            }
+            seen.clear();
             seen.raiseTo(seenThere);
             for (int other = 0; other < DEVICES; other++) {
                 knownSince[other] = NOT_KNOWN_YET;
@@ -790,9 +773,9 @@ public final class BraidBook {
     private static final class Numbers {
         final int[] numbers = new int[CELLS];
 
-        void clear(int field) {
-            for (int device = 0; device < DEVICES; device++) {
-                numbers[cell(field, device)] = 0;
+        void clear() {
+            for (int cell = 0; cell < CELLS; cell++) {
+                numbers[cell] = 0;
             }
         }
 
