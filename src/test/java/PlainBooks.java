@@ -10,7 +10,7 @@ import java.util.TreeMap;
  * The document's words as plainly as they can be written: lists of values, maps of marks and notes.
  * It shares no code and no representation with BraidBook, so that a misreading shows as a difference.
  */
-final class PlainBooks {
+final class PlainBooks implements Face {
     record Value(int device, int number, int value) {}
 
     record Mark(int device, int number, int[][] seen) {}
@@ -97,7 +97,8 @@ final class PlainBooks {
         return known;
     }
 
-    int entry(int device) {
+    @Override
+    public int entry(int device) {
         device(device);
         if (owners.size() == 10) throw new IllegalStateException();
         owners.add(device / 2);
@@ -106,7 +107,8 @@ final class PlainBooks {
         return owners.size() - 1;
     }
 
-    int tell(int device, int entry, int field, int value) {
+    @Override
+    public int tell(int device, int entry, int field, int value) {
         Known known = known(device, entry);
         field(field);
         if (value < -1 || value > 999) throw new IllegalArgumentException();
@@ -121,7 +123,8 @@ final class PlainBooks {
         return gone;
     }
 
-    int delete(int device, int entry) {
+    @Override
+    public int delete(int device, int entry) {
         Known known = known(device, entry);
         if (owners.get(entry) != device / 2 || !there(known)) throw new IllegalStateException();
         int[][] seen = new int[4][];
@@ -134,7 +137,8 @@ final class PlainBooks {
         return count;
     }
 
-    int share(int device, int entry, int person, int fields) {
+    @Override
+    public int share(int device, int entry, int person, int fields) {
         Known known = known(device, entry);
         if (person < 0 || person > 2) throw new IndexOutOfBoundsException();
         if (fields < 0 || fields > 15) throw new IllegalArgumentException();
@@ -162,7 +166,8 @@ final class PlainBooks {
         }
     }
 
-    int merge(int one, int other) {
+    @Override
+    public int merge(int one, int other) {
         device(one);
         device(other);
         if (one == other) throw new IllegalArgumentException();
@@ -253,7 +258,8 @@ final class PlainBooks {
         return gained;
     }
 
-    int pass(int months) {
+    @Override
+    public int pass(int months) {
         if (months < 1 || months > 24) throw new IllegalArgumentException();
         month += months;
         int forgotten = 0;
@@ -273,7 +279,8 @@ final class PlainBooks {
         return forgotten;
     }
 
-    int state(int device, int entry) {
+    @Override
+    public int state(int device, int entry) {
         device(device);
         if (entry < 0 || entry >= owners.size()) throw new IndexOutOfBoundsException();
         Known known = devices[device].entries.get(entry);
@@ -282,7 +289,8 @@ final class PlainBooks {
         return known.since.isEmpty() ? 3 : 2;
     }
 
-    int value(int device, int entry, int field, int index) {
+    @Override
+    public int value(int device, int entry, int field, int index) {
         Known known = known(device, entry);
         field(field);
         List<Value> values = known.fields[field].values;
@@ -290,27 +298,36 @@ final class PlainBooks {
         return values.get(index).value();
     }
 
-    int values(int device, int entry, int field) {
+    @Override
+    public int valueAnew(int device, int entry, int field, int index) {
+        return value(device, entry, field, index);
+    }
+
+    @Override
+    public int values(int device, int entry, int field) {
         Known known = known(device, entry);
         field(field);
         return known.fields[field].values.size();
     }
 
-    int seen(int device, int entry, int field, int of) {
+    @Override
+    public int seen(int device, int entry, int field, int of) {
         Known known = known(device, entry);
         field(field);
         device(of);
         return known.fields[field].seen[of];
     }
 
-    int marks(int device, int entry) {
+    @Override
+    public int marks(int device, int entry) {
         Known known = known(device, entry);
         int last = -1;
         for (int since : known.since.values()) last = Math.max(last, since);
         return known.since.isEmpty() ? 0 : 100 * known.since.size() + Math.min(99, month - last);
     }
 
-    int clashes(int device) {
+    @Override
+    public int clashes(int device) {
         device(device);
         int count = 0;
         for (Known known : devices[device].entries.values()) {
@@ -319,7 +336,8 @@ final class PlainBooks {
         return count;
     }
 
-    float agreement(int one, int other) {
+    @Override
+    public float agreement(int one, int other) {
         device(one);
         device(other);
         int same = 0;

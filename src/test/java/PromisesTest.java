@@ -1,53 +1,18 @@
 /** For each promise of the document its ordinary answers, its edges, and its exceptions. */
-public final class PromisesTest {
-    private static final Class<?> INDEX = IndexOutOfBoundsException.class;
-    private static final Class<?> ARGUMENT = IllegalArgumentException.class;
-    private static final Class<?> STATE = IllegalStateException.class;
-    private static final int[] NO_DEVICES = {-1, 6, Integer.MIN_VALUE, Integer.MAX_VALUE};
+public final class PromisesTest extends Checks {
     private static final int[] NO_ENTRIES = {-1, 1, 10, Integer.MIN_VALUE, Integer.MAX_VALUE};
-    private static final int[] NO_FIELDS = {-1, 4, Integer.MIN_VALUE, Integer.MAX_VALUE};
-
-    private static int checked;
-    private static int wrong;
-    private static String promise = "";
-
-    private interface Call {
-        double answer();
-    }
-
-    private static void due(String what, double want, double got) {
-        checked++;
-        if (want != got) {
-            wrong++;
-            System.out.println(promise + ": " + what + ": due is " + want + ", got " + got);
-        }
-    }
-
-    /** The very class is looked at: the machine's own exceptions extend the document's. */
-    private static void dueThrow(String what, Class<?> want, Call call) {
-        checked++;
-        String got;
-        try {
-            got = "answer " + call.answer();
-        } catch (RuntimeException e) {
-            if (e.getClass() == want) return;
-            got = e.getClass().getName();
-        }
-        wrong++;
-        System.out.println(promise + ": " + what + ": due is " + want.getName() + ", got " + got);
-    }
 
     /** One entry of the person 0, known to the device 0, with a value in the field 0. */
-    private static BraidBook one() {
-        BraidBook b = new BraidBook();
+    private static CountedBook one() {
+        CountedBook b = new CountedBook();
         b.entry(0);
         b.tell(0, 0, 0, 5);
         return b;
     }
 
     private static void newObject() {
-        promise = "1 new object";
-        BraidBook b = new BraidBook();
+        sentence("1 new object");
+        CountedBook b = new CountedBook();
         for (int d = 0; d < 6; d++) {
             int device = d;
             due("no clashes", 0, b.clashes(d));
@@ -56,14 +21,14 @@ public final class PromisesTest {
         }
         due("nothing to merge", 0, b.merge(0, 1));
         due("nothing to forget", 0, b.pass(24));
-        BraidBook other = new BraidBook();
+        CountedBook other = new CountedBook();
         one();
         due("objects are apart", 0, other.entry(3));
     }
 
     private static void entry() {
-        promise = "2 entry";
-        BraidBook b = new BraidBook();
+        sentence("2 entry");
+        CountedBook b = new CountedBook();
         for (int e = 0; e < 10; e++) {
             due("numbers rise", e, b.entry(e % 6));
             due("known where it was made", 3, b.state(e % 6, e));
@@ -72,7 +37,7 @@ public final class PromisesTest {
         }
         dueThrow("ten are there", STATE, () -> b.entry(0));
         for (int d : NO_DEVICES) dueThrow("device before state", INDEX, () -> b.entry(d));
-        BraidBook c = new BraidBook();
+        CountedBook c = new CountedBook();
         for (int d : NO_DEVICES) dueThrow("no such device", INDEX, () -> c.entry(d));
         due("a throw makes none", 0, c.entry(5));
         c.tell(5, 0, 0, 1);
@@ -80,8 +45,8 @@ public final class PromisesTest {
     }
 
     private static void tell() {
-        promise = "3 tell";
-        BraidBook b = new BraidBook();
+        sentence("3 tell");
+        CountedBook b = new CountedBook();
         b.entry(4);
         due("nothing goes", 0, b.tell(4, 0, 0, 0));
         due("one goes", 1, b.tell(4, 0, 0, 999));
@@ -116,8 +81,8 @@ public final class PromisesTest {
     }
 
     private static void delete() {
-        promise = "4 delete";
-        BraidBook b = one();
+        sentence("4 delete");
+        CountedBook b = one();
         b.tell(0, 0, 1, 6);
         b.share(0, 0, 1, 15);
         b.merge(0, 1);
@@ -145,8 +110,8 @@ public final class PromisesTest {
     }
 
     private static void share() {
-        promise = "5 share";
-        BraidBook b = one();
+        sentence("5 share");
+        CountedBook b = one();
         b.tell(0, 0, 1, 6);
         due("none before", 0, b.share(0, 0, 1, 3));
         due("of the other person none", 0, b.share(0, 0, 2, 15));
@@ -180,8 +145,8 @@ public final class PromisesTest {
     }
 
     private static void mergeValues() {
-        promise = "6 merge, values";
-        BraidBook b = one();
+        sentence("6 merge, values");
+        CountedBook b = one();
         due("no field in common", 0, b.merge(0, 2));
         due("not known then", 0, b.state(2, 0));
         due("one gains one", 1, b.merge(0, 1));
@@ -221,8 +186,8 @@ public final class PromisesTest {
     }
 
     private static void mergeMarks() {
-        promise = "6 merge, marks";
-        BraidBook b = one();
+        sentence("6 merge, marks");
+        CountedBook b = one();
         b.merge(0, 1);
         b.delete(0, 0);
         b.tell(1, 0, 1, 7);
@@ -243,8 +208,8 @@ public final class PromisesTest {
     }
 
     private static void mergeNotes() {
-        promise = "6 merge, notes";
-        BraidBook b = one();
+        sentence("6 merge, notes");
+        CountedBook b = one();
         b.share(0, 0, 1, 1);
         b.merge(0, 1);
         b.merge(1, 2);
@@ -255,7 +220,7 @@ public final class PromisesTest {
         due("forgotten by the note of the device 1, by a device of another person", 100, b.merge(1, 2));
         due("nothing is left to forget", 0, b.merge(0, 2));
 
-        BraidBook c = one();
+        CountedBook c = one();
         c.merge(0, 1);
         c.delete(0, 0);
         c.pass(13);
@@ -265,7 +230,7 @@ public final class PromisesTest {
         due("the marks were forgotten", 0, c.marks(0, 0));
         due("its earlier value came along", 5, c.value(0, 0, 0, 0));
 
-        BraidBook d = one();
+        CountedBook d = one();
         d.share(0, 0, 1, 1);
         d.merge(0, 1);
         d.merge(0, 2);
@@ -279,7 +244,7 @@ public final class PromisesTest {
         due("unknown on the first", 0, d.state(2, 0));
         due("unknown on the second", 0, d.state(0, 0));
 
-        BraidBook e = one();
+        CountedBook e = one();
         e.share(0, 0, 1, 1);
         e.delete(0, 0);
         e.pass(13);
@@ -287,7 +252,7 @@ public final class PromisesTest {
         due("as has a third one", 0, e.merge(1, 2));
         due("unknown", 0, e.state(1, 0));
 
-        BraidBook f = one();
+        CountedBook f = one();
         f.delete(0, 0);
         f.tell(0, 0, 0, 6);
         f.merge(0, 1);
@@ -297,8 +262,8 @@ public final class PromisesTest {
     }
 
     /** The device 2 knows the entry; the device 0 has a note that covers it, the devices 1 and 3 know nothing. */
-    private static BraidBook noted() {
-        BraidBook b = one();
+    private static CountedBook noted() {
+        CountedBook b = one();
         b.share(0, 0, 1, 1);
         b.merge(0, 2);
         b.delete(0, 0);
@@ -307,16 +272,16 @@ public final class PromisesTest {
     }
 
     private static void mergeNoteEitherWay() {
-        promise = "6 merge, a note either way";
-        BraidBook b = noted();
+        sentence("6 merge, a note either way");
+        CountedBook b = noted();
         b.merge(0, 1);
         due("given to the second", 100, b.merge(1, 2));
-        BraidBook c = noted();
+        CountedBook c = noted();
         c.merge(1, 0);
         due("given to the first", 100, c.merge(1, 2));
-        BraidBook d = noted();
+        CountedBook d = noted();
         due("without a note it comes back", 1, d.merge(1, 2));
-        BraidBook e = noted();
+        CountedBook e = noted();
         e.merge(0, 3);
         e.merge(3, 0);
         due("both still have it", 100, e.merge(2, 3));
@@ -324,8 +289,8 @@ public final class PromisesTest {
     }
 
     private static void mergeNotesGreater() {
-        promise = "6 merge, the greater one of two notes";
-        BraidBook b = one();
+        sentence("6 merge, the greater one of two notes");
+        CountedBook b = one();
         b.merge(0, 1);
         b.share(0, 0, 1, 1);
         b.delete(0, 0);
@@ -338,8 +303,8 @@ public final class PromisesTest {
     }
 
     private static void mergeNotePassedOn() {
-        promise = "6 merge, a note passed on";
-        BraidBook b = one();
+        sentence("6 merge, a note passed on");
+        CountedBook b = one();
         b.merge(0, 1);
         b.share(0, 0, 1, 1);
         b.merge(0, 2);
@@ -355,8 +320,8 @@ public final class PromisesTest {
     }
 
     private static void mergeNoteOfMarks() {
-        promise = "6 merge, a note has the numbers of marks";
-        BraidBook b = one();
+        sentence("6 merge, a note has the numbers of marks");
+        CountedBook b = one();
         b.share(0, 0, 1, 3);
         b.tell(0, 0, 1, 6);
         b.merge(0, 1);
@@ -371,8 +336,8 @@ public final class PromisesTest {
     }
 
     private static void pass() {
-        promise = "7 pass";
-        BraidBook b = one();
+        sentence("7 pass");
+        CountedBook b = one();
         b.merge(0, 1);
         b.delete(0, 0);
         due("twelve months are not more than twelve", 0, b.pass(12));
@@ -390,7 +355,7 @@ public final class PromisesTest {
         dueThrow("above", ARGUMENT, () -> b.pass(25));
         dueThrow("greatest", ARGUMENT, () -> b.pass(Integer.MAX_VALUE));
 
-        BraidBook c = one();
+        CountedBook c = one();
         c.delete(0, 0);
         c.tell(0, 0, 0, 1);
         c.pass(10);
@@ -399,7 +364,7 @@ public final class PromisesTest {
         due("two marks", 212, c.marks(0, 0));
         due("now each", 1, c.pass(1));
 
-        BraidBook d = one();
+        CountedBook d = one();
         d.delete(0, 0);
         d.tell(0, 0, 0, 1);
         due("there again, it is not forgotten", 0, d.pass(24));
@@ -408,8 +373,8 @@ public final class PromisesTest {
     }
 
     private static void state() {
-        promise = "8 state";
-        BraidBook b = new BraidBook();
+        sentence("8 state");
+        CountedBook b = new CountedBook();
         b.entry(2);
         due("unknown", 0, b.state(3, 0));
         due("neither a value nor a mark", 3, b.state(2, 0));
@@ -427,8 +392,8 @@ public final class PromisesTest {
 
     /** Both of promises 9 and 10: they return the same. */
     private static void value(boolean anew) {
-        promise = anew ? "10 valueAnew" : "9 value";
-        BraidBook b = one();
+        sentence(anew ? "10 valueAnew" : "9 value");
+        CountedBook b = one();
         b.share(0, 0, 1, 1);
         b.merge(0, 1);
         b.merge(0, 2);
@@ -464,21 +429,21 @@ public final class PromisesTest {
         due("asking changes nothing", 1, b.state(1, 1));
     }
 
-    private static int ask(BraidBook b, boolean anew, int device, int entry, int field, int index) {
+    private static int ask(CountedBook b, boolean anew, int device, int entry, int field, int index) {
         return anew ? b.valueAnew(device, entry, field, index) : b.value(device, entry, field, index);
     }
 
     /** Nothing of one doing may be left for the next one. */
     private static void valueAnewAgain() {
-        promise = "10 valueAnew, again";
-        BraidBook b = one();
+        sentence("10 valueAnew, again");
+        CountedBook b = one();
         b.merge(0, 2);
         b.share(0, 0, 1, 1);
         for (int i = 0; i < 3; i++) {
             dueThrow("shared later than merged", INDEX, () -> b.valueAnew(2, 0, 0, 0));
             due("the owner", 5, b.valueAnew(0, 0, 0, 0));
         }
-        BraidBook c = one();
+        CountedBook c = one();
         c.share(0, 0, 1, 1);
         c.merge(0, 2);
         c.merge(0, 1);
@@ -489,7 +454,7 @@ public final class PromisesTest {
             due("the note of the device 2 is later than the merging", 5, c.valueAnew(1, 0, 0, 0));
             dueThrow("forgotten each time", INDEX, () -> c.valueAnew(0, 0, 0, 0));
         }
-        BraidBook d = one();
+        CountedBook d = one();
         for (int i = 0; i < 12; i++) due("entries are made but once", 5, d.valueAnew(0, 0, 0, 0));
         d.entry(3);
         d.tell(3, 1, 2, 9);
@@ -503,8 +468,8 @@ public final class PromisesTest {
     }
 
     private static void values() {
-        promise = "11 values";
-        BraidBook b = one();
+        sentence("11 values");
+        CountedBook b = one();
         due("one", 1, b.values(0, 0, 0));
         due("none", 0, b.values(0, 0, 3));
         b.share(0, 0, 1, 15);
@@ -524,8 +489,8 @@ public final class PromisesTest {
     }
 
     private static void seen() {
-        promise = "12 seen";
-        BraidBook b = one();
+        sentence("12 seen");
+        CountedBook b = one();
         due("its own act", 1, b.seen(0, 0, 0, 0));
         due("not of another field", 0, b.seen(0, 0, 1, 0));
         due("not of another device", 0, b.seen(0, 0, 0, 5));
@@ -557,8 +522,8 @@ public final class PromisesTest {
     }
 
     private static void marks() {
-        promise = "13 marks";
-        BraidBook b = one();
+        sentence("13 marks");
+        CountedBook b = one();
         due("none", 0, b.marks(0, 0));
         b.delete(0, 0);
         due("one, new", 100, b.marks(0, 0));
@@ -581,8 +546,8 @@ public final class PromisesTest {
     }
 
     private static void clashes() {
-        promise = "14 clashes";
-        BraidBook b = one();
+        sentence("14 clashes");
+        CountedBook b = one();
         b.entry(0);
         b.tell(0, 1, 3, 1);
         b.merge(0, 1);
@@ -606,8 +571,8 @@ public final class PromisesTest {
     }
 
     private static void agreement() {
-        promise = "15 agreement";
-        BraidBook b = one();
+        sentence("15 agreement");
+        CountedBook b = one();
         due("three empty fields are the same", 0.75f, b.agreement(0, 1));
         due("either way", 0.75f, b.agreement(1, 0));
         due("no field in common", 1, b.agreement(0, 2));
@@ -639,19 +604,19 @@ public final class PromisesTest {
 
     /** The longest life: as many acts as there may be calls, of each kind that keeps something. */
     private static void lastCall() {
-        promise = "512 calls";
-        BraidBook marks = new BraidBook();
+        sentence("512 calls");
+        CountedBook marks = new CountedBook();
         marks.entry(0);
         for (int i = 1; i < 511; i += 2) {
             marks.tell(0, 0, 0, i);
             marks.delete(0, 0);
         }
         due("the last call", 25500, marks.marks(0, 0));
-        BraidBook acts = new BraidBook();
+        CountedBook acts = new CountedBook();
         acts.entry(0);
         for (int i = 0; i < 510; i++) acts.tell(0, 0, 0, i);
         due("the last call", 509, acts.valueAnew(0, 0, 0, 0));
-        BraidBook months = one();
+        CountedBook months = one();
         months.delete(0, 0);
         months.tell(0, 0, 0, 1);
         for (int i = 4; i < 511; i++) months.pass(24);
@@ -660,30 +625,25 @@ public final class PromisesTest {
 
     /** What they answer is free, but the machine must not throw. */
     private static void laterCalls() {
-        promise = "later calls";
+        sentence("later calls");
         BraidBook b = new BraidBook();
         b.entry(0);
         for (int i = 0; i < 2000; i++) {
-            later(b, i);
-            checked++;
+            int call = i;
+            String got = got(() -> later(b, call));
+            boolean written = !got.startsWith("throws") || got.endsWith(INDEX.getName()) || got.endsWith(STATE.getName());
+            dueText("the call " + i, written ? got : "an answer or an exception that the document names", got);
         }
     }
 
-    private static void later(BraidBook b, int i) {
-        try {
-            switch (i % 6) {
-                case 0: b.tell(0, 0, 0, i % 1000); break;
-                case 1: b.delete(0, 0); break;
-                case 2: b.merge(0, 1); break;
-                case 3: b.pass(24); break;
-                case 4: b.valueAnew(0, 0, 0, 0); break;
-                default: b.entry(0); break;
-            }
-        } catch (RuntimeException e) {
-            if (e.getClass() != INDEX && e.getClass() != STATE) {
-                wrong++;
-                System.out.println(promise + ": " + e);
-            }
+    private static double later(BraidBook b, int i) {
+        switch (i % 6) {
+            case 0: return b.tell(0, 0, 0, i % 1000);
+            case 1: return b.delete(0, 0);
+            case 2: return b.merge(0, 1);
+            case 3: return b.pass(24);
+            case 4: return b.valueAnew(0, 0, 0, 0);
+            default: return b.entry(0);
         }
     }
 
@@ -712,7 +672,6 @@ public final class PromisesTest {
         agreement();
         lastCall();
         laterCalls();
-        System.out.println(checked + " answers looked at, " + wrong + " wrong");
-        if (wrong != 0) System.exit(1);
+        end();
     }
 }
